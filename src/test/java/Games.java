@@ -1,0 +1,64 @@
+/** Ways to bring a SpoonNavy where a test wants it. */
+final class Games {
+
+    private Games() {
+    }
+
+    /** A game that is going on; each row holds fleet, x, y, bearing and cubes of a spoon. */
+    static SpoonNavy started(int[]... spoons) {
+        SpoonNavy navy = prepared(spoons);
+        navy.start();
+        return navy;
+    }
+
+    static SpoonNavy prepared(int[]... spoons) {
+        SpoonNavy navy = new SpoonNavy();
+        for (int[] spoon : spoons) {
+            navy.addSpoon(spoon[0], spoon[1], spoon[2], spoon[3], spoon[4]);
+        }
+        return navy;
+    }
+
+    static int[] spoon(int fleet, int x, int y, int bearing, int cubes) {
+        return new int[] {fleet, x, y, bearing, cubes};
+    }
+
+    /** Spoon 0 of fleet 0 has sunk spoon 1 of fleet 1: the game is finished. */
+    static SpoonNavy finished() {
+        SpoonNavy navy = started(spoon(0, 2, 2, 0, 5), spoon(1, 2, 4, 4, 3));
+        navy.fire(0, 2, 4);
+        navy.fire(0, 2, 4);
+        return navy;
+    }
+
+    /** Spoon 1 of fleet 1 is sunk, spoon 2 of fleet 1 floats: the game goes on, fleet 0 has 1 action. */
+    static SpoonNavy withSunkSpoon() {
+        SpoonNavy navy = started(spoon(0, 2, 2, 0, 5), spoon(1, 2, 4, 4, 3), spoon(1, 9, 9, 4, 6));
+        navy.fire(0, 2, 4);
+        navy.fire(0, 2, 4);
+        return navy;
+    }
+
+    static void type(SpoonNavy navy, String text) {
+        for (int i = 0; i < text.length(); i++) {
+            navy.append(text.charAt(i));
+        }
+    }
+
+    static int run(SpoonNavy navy, String text) {
+        type(navy, text);
+        return navy.run();
+    }
+
+    static String line(SpoonNavy navy, int length) {
+        StringBuilder text = new StringBuilder();
+        for (int i = 0; i < length; i++) {
+            text.append(navy.lineAt(i));
+        }
+        return text.toString();
+    }
+
+    static String row(SpoonNavy navy, int y) {
+        return line(navy, navy.describeRow(y));
+    }
+}
