@@ -97,7 +97,7 @@ public final class SpoonNavy {
         if (!game.isOver()) {
             throw new IllegalStateException("the game is not finished");
         }
-        return game.countAfloat(0) > 0 ? 0 : 1;
+        return game.accountOf(0).afloat > 0 ? 0 : 1;
     }
 
     public int activeFleet() throws IllegalStateException {
@@ -209,7 +209,7 @@ public final class SpoonNavy {
 
     public int floating(int fleet) throws IndexOutOfBoundsException {
         requireFleet(fleet);
-        return game.countAfloat(fleet);
+        return game.accountOf(fleet).afloat;
     }
 
     public int spoonAtRank(int rank) throws NoSuchElementException {
@@ -366,11 +366,11 @@ public final class SpoonNavy {
 
     public double meanCubes(int fleet) throws IndexOutOfBoundsException, ArithmeticException {
         requireFleet(fleet);
-        int spoons = game.countAfloat(fleet);
-        if (spoons == 0) {
+        int afloat = game.accountOf(fleet).afloat;
+        if (afloat == 0) {
             throw new ArithmeticException("no spoon of the fleet floats");
         }
-        return (double) game.cubesBySpoons(fleet) / (double) spoons;
+        return (double) game.cubesBySpoons(fleet) / (double) afloat;
     }
 
     public boolean isConsistent() {
@@ -643,9 +643,10 @@ public final class SpoonNavy {
         }
     }
 
-    /** The pot of a fleet, and where the cubes on its spoons came from and went. */
+    /** The spoons and the pot of a fleet, and where the cubes on its spoons came from and went. */
     private static final class Account {
         private int spoons = 0;
+        private int afloat = 0;
         private int pot = FULL_POT;
         private int added = 0;
         private int loaded = 0;
@@ -655,6 +656,7 @@ public final class SpoonNavy {
 
         void copyFrom(Account other) {
             spoons = other.spoons;
+            afloat = other.afloat;
             pot = other.pot;
             added = other.added;
             loaded = other.loaded;
@@ -720,21 +722,11 @@ public final class SpoonNavy {
         }
 
         boolean isOver() {
-            return hasBegun && (countAfloat(0) == 0 || countAfloat(1) == 0);
+            return hasBegun && (firstAccount.afloat == 0 || secondAccount.afloat == 0);
         }
 
         boolean isGoingOn() {
             return hasBegun && !isOver();
-        }
-
-        int countAfloat(int fleet) {
-            int found = 0;
-            for (Spoon each : spoons) {
-                if (each.isAfloatOf(fleet)) {
-                    found++;
-                }
-            }
-            return found;
         }
 
         Spoon spoonIn(int x, int y) {
@@ -866,6 +858,7 @@ public final class SpoonNavy {
             added.cubes = cubes;
             added.becomeKnown();
             account.spoons++;
+            account.afloat++;
             account.added += cubes;
             count++;
             return added.number;
@@ -951,7 +944,8 @@ public final class SpoonNavy {
 
         private boolean isOpponentNear(Spoon spoon) {
             for (Spoon each : spoons) {
-                if (each.isAfloatOf(1 - spoon.fleet) && each.distanceTo(spoon.x, spoon.y) <= DISCOVERY_DISTANCE) {
+                if (each.isAfloatOf(1 - spoon.fleet)
+                        && each.distanceTo(spoon.x, spoon.y) <= DISCOVERY_DISTANCE) {
                     return true;
                 }
             }
@@ -992,7 +986,9 @@ public final class SpoonNavy {
             if (target.isAfloat()) {
                 return 1;
             }
-            accountOf(target.fleet).sunken += target.cubes;
+            Account account = accountOf(target.fleet);
+            account.afloat--;
+            account.sunken += target.cubes;
             target.cubes = 0;
             return 2;
         }
@@ -1122,7 +1118,7 @@ public final class SpoonNavy {
             return true;
         }
 
-        /** Reads the command at the position and goes behind it, or to the first character that fits no form. */
+        /** Goes behind the command at the position, or to the first character that fits no form. */
         boolean readCommand() {
             int farthest = position;
             for (Form each : FORMS) {

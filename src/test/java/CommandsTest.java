@@ -12,6 +12,7 @@ public final class CommandsTest {
         runKeepsTheReason();
         runIsOneChange();
         errorPosition();
+        errorPositionBehindAnOlderText();
         errorPositionIsKept();
         failedCommand();
         CHECK.finish();
@@ -211,6 +212,21 @@ public final class CommandsTest {
         CHECK.dueThrow("failedCommand", Check.NO_ELEMENT, () -> navy.failedCommand());
         CHECK.due("the text is empty", navy.append('e'), 1);
         CHECK.dueThrow("no change", Check.STATE, () -> navy.undo());
+    }
+
+    private static void errorPositionBehindAnOlderText() {
+        SpoonNavy navy = new SpoonNavy();
+        Games.run(navy, TWO_SPOONS);
+        Games.type(navy, "spoon 0 00 1");
+        CHECK.dueThrow("the older text is no part", Check.ARGUMENT, () -> navy.run());
+        CHECK.due("the older text is no part", navy.errorPosition(), 12);
+        Games.type(navy, "spoon 0 00 14;");
+        CHECK.dueThrow("nor its second command", Check.ARGUMENT, () -> navy.run());
+        CHECK.due("nor its second command", navy.errorPosition(), 14);
+        Games.run(navy, "end");
+        Games.type(navy, "en");
+        CHECK.dueThrow("nor its last letter", Check.ARGUMENT, () -> navy.run());
+        CHECK.due("nor its last letter", navy.errorPosition(), 2);
     }
 
     private static void errorPositionIsKept() {

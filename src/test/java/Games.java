@@ -61,4 +61,27 @@ final class Games {
     static String row(SpoonNavy navy, int y) {
         return line(navy, navy.describeRow(y));
     }
+
+    /** All that changes can change, as a text that two objects can be compared by. */
+    static String stateOf(SpoonNavy navy) {
+        StringBuilder text = new StringBuilder();
+        text.append(navy.isStarted()).append(navy.isFinished()).append(navy.turnCount());
+        if (navy.isStarted() && !navy.isFinished()) {
+            text.append(' ').append(navy.activeFleet()).append(navy.actionsLeft());
+        }
+        for (int fleet = 0; fleet < 2; fleet++) {
+            text.append(" f").append(navy.potOf(fleet)).append('/').append(navy.fleetCubesByAccount(fleet));
+        }
+        text.append(" t").append(navy.shotCount()).append('/').append(navy.hitCount());
+        text.append('/').append(navy.cellsSailed()).append('/').append(navy.secretCount());
+        for (int spoon = 0; spoon < navy.spoonCount(); spoon++) {
+            text.append(" s").append(navy.fleetOf(spoon)).append(navy.bearingOf(spoon));
+            text.append(navy.hullOf(spoon)).append(navy.cubesOf(spoon));
+            if (!navy.isSunk(spoon)) {
+                text.append(navy.xOf(spoon)).append(navy.yOf(spoon));
+                text.append(navy.knownX(spoon)).append(navy.knownY(spoon));
+            }
+        }
+        return text.toString();
+    }
 }

@@ -122,6 +122,10 @@ public final class RangesTest {
         due(navy, new int[] {4, 2, 2, 2, 2, 0, 1});
         navy.fire(0, 4, 6);
         due(navy, new int[] {3, 1, 0, 2, 2, 0, 1});
+        due(Games.prepared(Games.spoon(0, 4, 4, 5, 9), Games.spoon(1, 0, 0, 1, 5), Games.spoon(1, 4, 0, 1, 1),
+                Games.spoon(1, 0, 4, 1, 4)), new int[] {3, 1, 0, 1});
+        due(Games.prepared(Games.spoon(1, 5, 5, 1, 4), Games.spoon(0, 9, 9, 5, 4), Games.spoon(0, 5, 9, 5, 3),
+                Games.spoon(0, 9, 5, 5, 3)), new int[] {3, 1, 0, 0});
         SpoonNavy wrong = Games.withSunkSpoon();
         CHECK.promise(33, "targetCount");
         CHECK.due("sunk", wrong.targetCount(1), 0);

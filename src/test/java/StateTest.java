@@ -152,38 +152,48 @@ public final class StateTest {
     private static void undoOfEachChange() {
         SpoonNavy navy = Games.prepared(Games.spoon(0, 2, 2, 0, 5), Games.spoon(1, 2, 4, 4, 3),
                 Games.spoon(1, 9, 9, 4, 6));
+        CHECK.due("addSpoon", navy.undo(), 2);
+        CHECK.due("addSpoon", navy.spoonCount(), 2);
+        navy.addSpoon(1, 9, 9, 4, 6);
         navy.start();
         navy.undo();
         CHECK.due("start", navy.isStarted(), false);
+        CHECK.due("the spoon stays", navy.spoonCount(), 3);
         navy.start();
-        String start = stateOf(navy);
+        String start = Games.stateOf(navy);
         navy.turnTo(0, 3);
         navy.undo();
-        CHECK.due("turnTo", stateOf(navy), start);
+        CHECK.due("turnTo", Games.stateOf(navy), start);
         navy.sail(0, 1, true);
         navy.undo();
-        CHECK.due("sail", stateOf(navy), start);
+        CHECK.due("sail", Games.stateOf(navy), start);
         navy.load(0, 1);
+        String loaded = Games.stateOf(navy);
+        navy.load(0, 2);
         navy.undo();
-        CHECK.due("load", stateOf(navy), start);
+        CHECK.due("second load", Games.stateOf(navy), loaded);
+        navy.undo();
+        CHECK.due("load", Games.stateOf(navy), start);
         navy.endTurn();
         navy.undo();
-        CHECK.due("endTurn", stateOf(navy), start);
+        CHECK.due("endTurn", Games.stateOf(navy), start);
         navy.fire(0, 2, 4);
+        String hit = Games.stateOf(navy);
         navy.fire(0, 2, 4);
         navy.undo();
+        CHECK.due("second fire", Games.stateOf(navy), hit);
         navy.undo();
-        CHECK.due("fire", stateOf(navy), start);
+        CHECK.due("fire", Games.stateOf(navy), start);
         Games.run(navy, "fire 0 24;fire 0 24;load 0 3;end;turn 2 5;sneak 2 3");
         navy.undo();
-        CHECK.due("run", stateOf(navy), start);
+        CHECK.due("run", Games.stateOf(navy), start);
         navy.endTurn();
         navy.turnTo(2, 5);
         navy.sail(2, 2, true);
-        String hidden = stateOf(navy);
+        String hidden = Games.stateOf(navy);
         navy.sail(2, 1, false);
         navy.undo();
-        CHECK.due("open sailing", stateOf(navy), hidden);
+        CHECK.due("open sailing", Games.stateOf(navy), hidden);
     }
 
     private static void whatIsNoChange() {
@@ -224,40 +234,37 @@ public final class StateTest {
         navy.endTurn();
         navy.turnTo(2, 5);
         navy.sail(2, 2, true);
-        String saved = stateOf(navy);
+        String saved = Games.stateOf(navy);
         navy.save();
         navy.load(2, 3);
         navy.endTurn();
         navy.fire(0, 2, 3);
         navy.sail(0, 3, false);
         CHECK.due("restore", navy.restore(), 3);
-        CHECK.due("state", stateOf(navy), saved);
+        CHECK.due("state", Games.stateOf(navy), saved);
         CHECK.dueThrow("nothing to undo", Check.STATE, () -> navy.undo());
         navy.endTurn();
         CHECK.due("one change since", navy.undo(), 0);
         navy.endTurn();
         Games.type(navy, "en");
         CHECK.due("the snapshot is kept", navy.restore(), 3);
-        CHECK.due("state again", stateOf(navy), saved);
+        CHECK.due("state again", Games.stateOf(navy), saved);
         CHECK.due("restore leaves the text", navy.append('d'), 3);
+        restoreOfAnotherFleet();
     }
 
-    private static String stateOf(SpoonNavy navy) {
-        StringBuilder text = new StringBuilder();
-        text.append(navy.activeFleet()).append(navy.actionsLeft()).append(' ').append(navy.turnCount());
-        for (int fleet = 0; fleet < 2; fleet++) {
-            text.append(" f").append(navy.potOf(fleet)).append('/').append(navy.fleetCubesByAccount(fleet));
-        }
-        text.append(" t").append(navy.shotCount()).append('/').append(navy.hitCount());
-        text.append('/').append(navy.cellsSailed()).append('/').append(navy.secretCount());
-        for (int spoon = 0; spoon < navy.spoonCount(); spoon++) {
-            text.append(" s").append(navy.fleetOf(spoon)).append(navy.bearingOf(spoon));
-            text.append(navy.hullOf(spoon)).append(navy.cubesOf(spoon));
-            if (!navy.isSunk(spoon)) {
-                text.append(navy.xOf(spoon)).append(navy.yOf(spoon));
-                text.append(navy.knownX(spoon)).append(navy.knownY(spoon));
-            }
-        }
-        return text.toString();
+    private static void restoreOfAnotherFleet() {
+        SpoonNavy navy = Games.prepared(Games.spoon(0, 1, 2, 3, 4));
+        navy.save();
+        navy.undo();
+        navy.addSpoon(1, 5, 6, 7, 8);
+        navy.addSpoon(0, 9, 9, 0, 9);
+        CHECK.due("restore", navy.restore(), 1);
+        CHECK.due("fleet", navy.fleetOf(0), 0);
+        CHECK.due("row of then", Games.row(navy, 2), ".a........");
+        CHECK.due("row of now", Games.row(navy, 6), "..........");
+        CHECK.dueThrow("the second spoon is gone", Check.INDEX, () -> navy.fleetOf(1));
+        CHECK.due("accounts", navy.fleetCubesByAccount(0), 4);
+        CHECK.due("isConsistent", navy.isConsistent(), true);
     }
 }
