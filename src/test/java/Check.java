@@ -1,4 +1,6 @@
 import java.util.NoSuchElementException;
+import java.util.function.IntConsumer;
+import java.util.function.ObjIntConsumer;
 
 /** Counts and prints the answers of a test that are not as due. */
 final class Check {
@@ -16,6 +18,11 @@ final class Check {
 
     void promise(int number, String name) {
         promise = "promise " + number + ", " + name;
+    }
+
+    /** The sentence of the document by which the next answers are due, in its own words. */
+    void sentence(String place, String words) {
+        promise = place + ", \"" + words + "\"";
     }
 
     void due(String what, long got, long want) {
@@ -55,6 +62,40 @@ final class Check {
             return;
         }
         report(what + " threw nothing, due is " + want.getName());
+    }
+
+    /** The call takes the numbers from lowest to highest: next to them and far away it throws. */
+    void dueThrowOutside(String what, int lowest, int highest, Class<?> want, IntConsumer call) {
+        int[] outside = {lowest - 1, highest + 1, Integer.MIN_VALUE, Integer.MAX_VALUE};
+        for (int number : outside) {
+            dueThrow(what + " " + number, want, () -> call.accept(number));
+        }
+    }
+
+    /** The call is for spoons that have been added alone, sunk or not, and for none that undo took back. */
+    void dueNoSuchSpoon(ObjIntConsumer<SpoonNavy> call) {
+        SpoonNavy none = new SpoonNavy();
+        dueThrowOutside("no spoons, spoon", 0, -1, INDEX, spoon -> call.accept(none, spoon));
+        SpoonNavy three = Games.withSunkSpoon();
+        dueThrowOutside("three spoons, spoon", 0, 2, INDEX, spoon -> call.accept(three, spoon));
+        SpoonNavy twelve = Games.twelve();
+        dueThrowOutside("twelve spoons, spoon", 0, 11, INDEX, spoon -> call.accept(twelve, spoon));
+        twelve.undo();
+        dueThrowOutside("the twelfth is taken back, spoon", 0, 10, INDEX, spoon -> call.accept(twelve, spoon));
+    }
+
+    void dueNoSuchFleet(ObjIntConsumer<SpoonNavy> call) {
+        SpoonNavy navy = Games.withSunkSpoon();
+        dueThrowOutside("fleet", 0, 1, INDEX, fleet -> call.accept(navy, fleet));
+        SpoonNavy none = new SpoonNavy();
+        dueThrowOutside("no spoons, fleet", 0, 1, INDEX, fleet -> call.accept(none, fleet));
+    }
+
+    /** The call throws and changes nothing of what changes can change. */
+    void dueUnchanged(String what, SpoonNavy navy, Class<?> want, Runnable call) {
+        String before = Games.stateOf(navy);
+        dueThrow(what, want, call);
+        due(what + ", state", Games.stateOf(navy), before);
     }
 
     void dueRefusal(String what, SpoonNavy navy, int reason, Runnable call) {

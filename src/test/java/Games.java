@@ -1,6 +1,9 @@
 /** Ways to bring a SpoonNavy where a test wants it. */
 final class Games {
 
+    private static final int[] STEP_X = {0, 1, 1, 1, 0, -1, -1, -1};
+    private static final int[] STEP_Y = {1, 1, 0, -1, -1, -1, 0, 1};
+
     private Games() {
     }
 
@@ -31,12 +34,38 @@ final class Games {
         return navy;
     }
 
+    /** Spoon 1 of fleet 1 has sunk spoon 0 of fleet 0 in the second turn: the game is finished. */
+    static SpoonNavy lost() {
+        SpoonNavy navy = started(spoon(0, 2, 4, 4, 3), spoon(1, 2, 2, 0, 5));
+        navy.endTurn();
+        navy.fire(1, 2, 4);
+        navy.fire(1, 2, 4);
+        return navy;
+    }
+
     /** Spoon 1 of fleet 1 is sunk, spoon 2 of fleet 1 floats: the game goes on, fleet 0 has 1 action. */
     static SpoonNavy withSunkSpoon() {
         SpoonNavy navy = started(spoon(0, 2, 2, 0, 5), spoon(1, 2, 4, 4, 3), spoon(1, 9, 9, 4, 6));
         navy.fire(0, 2, 4);
         navy.fire(0, 2, 4);
         return navy;
+    }
+
+    /** All twelve spoons, those of fleet 0 with the even numbers, along the rows 0 and 1; not started. */
+    static SpoonNavy twelve() {
+        SpoonNavy navy = new SpoonNavy();
+        for (int spoon = 0; spoon < 12; spoon++) {
+            navy.addSpoon(spoon % 2, spoon % 10, spoon / 10, 0, 1);
+        }
+        return navy;
+    }
+
+    static int stepX(int direction) {
+        return STEP_X[direction];
+    }
+
+    static int stepY(int direction) {
+        return STEP_Y[direction];
     }
 
     static void type(SpoonNavy navy, String text) {

@@ -12,8 +12,6 @@ public final class RandomCallsTest {
     private static final Check CHECK = new Check();
     private static final int GAMES = 120;
     private static final int CALLS = 100;
-    private static final int[] STEP_X = {0, 1, 1, 1, 0, -1, -1, -1};
-    private static final int[] STEP_Y = {1, 1, 0, -1, -1, -1, 0, 1};
 
     // A generator of its own with a fixed seed, so that each run of the test makes the same calls.
     private static long seed = 20261119L;
@@ -193,8 +191,8 @@ public final class RandomCallsTest {
         int y = navy.yOf(spoon);
         int bearing = navy.bearingOf(spoon);
         for (int cells = 0; ; cells++) {
-            x += STEP_X[bearing];
-            y += STEP_Y[bearing];
+            x += Games.stepX(bearing);
+            y += Games.stepY(bearing);
             if (x < 0 || x > 9 || y < 0 || y > 9 || Games.row(navy, y).charAt(x) != '.') {
                 return cells;
             }

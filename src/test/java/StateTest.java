@@ -177,6 +177,13 @@ public final class StateTest {
         navy.endTurn();
         navy.undo();
         CHECK.due("endTurn", Games.stateOf(navy), start);
+        undoOfShotsAndTexts();
+    }
+
+    private static void undoOfShotsAndTexts() {
+        SpoonNavy navy = Games.started(Games.spoon(0, 2, 2, 0, 5), Games.spoon(1, 2, 4, 4, 3),
+                Games.spoon(1, 9, 9, 4, 6));
+        String start = Games.stateOf(navy);
         navy.fire(0, 2, 4);
         String hit = Games.stateOf(navy);
         navy.fire(0, 2, 4);
